@@ -600,7 +600,7 @@ public final class GalleryRays {
         }
     }
 
-    /** A ray on its way to its next hit. */
+    /** A ray on its way to its next hit: the place that it left, and the time when it arrives. */
     private static final class Ray {
         private final int number;
         private int place;
@@ -613,16 +613,12 @@ public final class GalleryRays {
             this.number = number;
         }
 
-        void start(int fromPlace, int withStep, int withEnergy, long atTime) {
-            place = fromPlace;
+        void start(int from, int withStep, int withEnergy, long arrivesAt) {
+            place = from;
             step = withStep;
             energy = withEnergy;
+            arrival = arrivesAt;
             going = true;
-            leave(atTime);
-        }
-
-        void leave(long atTime) {
-            arrival = atTime + Circle.chordTime(step);
         }
 
         void lose(int thousandths) {
@@ -660,7 +656,7 @@ public final class GalleryRays {
             ears.forget();
             path.startAt(place);
             rayCount = 0;
-            begin(place, step, energy, 0);
+            begin(place, step, energy, Circle.chordTime(step));
             for (int i = 0; i < MOST_HITS; i++) {
                 Ray ray = earliest();
                 if (ray == null) {
@@ -670,9 +666,9 @@ public final class GalleryRays {
             }
         }
 
-        private void begin(int place, int step, int energy, long time) {
+        private void begin(int place, int step, int energy, long arrival) {
             if (rayCount < MOST_RAYS) {
-                rays[rayCount].start(place, step, energy, time);
+                rays[rayCount].start(place, step, energy, arrival);
                 rayCount++;
             }
         }
@@ -705,7 +701,7 @@ public final class GalleryRays {
                 ray.going = false;
             }
             if (ray.going) {
-                ray.leave(ray.arrival);
+                ray.arrival += Circle.chordTime(ray.step);
             }
         }
 
@@ -736,7 +732,7 @@ public final class GalleryRays {
             int step = Circle.tilted(ray.step, k);
             ray.energy -= half;
             if (step != 0 && half >= threshold) {
-                begin(ray.place, step, half, ray.arrival);
+                begin(ray.place, step, half, ray.arrival + Circle.chordTime(step));
             }
         }
     }

@@ -183,6 +183,8 @@ public final class ShotTest {
         tiltTo(9999, -9999, 0);
         tiltTo(10000, -9999, 1);
         tiltTo(77, 0, 77);
+        tiltTo(1, 5, 6);
+        tiltTo(-1, 5, -6);
     }
 
     /** The step becomes want; a want of 0 ends the ray before the later part hears it. */
@@ -368,6 +370,7 @@ public final class ShotTest {
         Due.same("heard after undo", x.heard(1, 3), 7);
         x.shoot(1, 9240, 7);
         Due.same("heard in a later shot", x.heard(1, 0), 0);
+        Due.same("sum in a later shot", x.heard(1, 1), 0);
         Due.same("first in a later shot", x.heard(1, 2), NONE);
         Due.same("greatest in a later shot", x.heard(1, 3), 0);
         x.add(0, 9240, 1, 1000);
@@ -412,6 +415,10 @@ public final class ShotTest {
         x.shoot(0, 9240, 1);
         Due.same("coverage() of one hit", x.coverage(), 1);
         Due.same("gap() of one hit", x.gap(), 27719);
+        x.shoot(27718, 1, 1);
+        Due.same("gap() before a hit at the last place", x.gap(), 27719);
+        x.shoot(39, 1, 1000);
+        Due.same("gap() behind hits at places 40 to 639", x.gap(), 27720 - 600);
         x.shoot(27719, 1, 1000);
         Due.same("coverage() of 600 hits", x.coverage(), 600);
         Due.same("gap() behind the hits", x.gap(), 27720 - 600);
@@ -466,6 +473,9 @@ public final class ShotTest {
         Due.same("crossings(10) backward", x.crossings(10), 20);
         x.shoot(3, 5544, 1);
         Due.same("crossings(200) of a pentagon", x.crossings(200), 0);
+        x.setLoss(500);
+        Due.same("three hits", x.shoot(3, 11088, 4), 3);
+        Due.same("crossings(200) of three chords", x.crossings(200), 1);
         x.setThreshold(2);
         x.shoot(3, 11088, 1);
         Due.same("crossings(200) of one chord", x.crossings(200), 0);

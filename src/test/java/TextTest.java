@@ -90,6 +90,9 @@ public final class TextTest {
         error("hit", 1);
         error("bach", 3);
         error("tile", 3);
+        error("soa:1+1,1", 3);
+        error("sp:1+1,1", 2);
+        error(":1+1", 0);
         error("hear", 4);
         error("hear ", 4);
         error("hear:", 5);
