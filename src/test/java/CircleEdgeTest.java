@@ -33,10 +33,7 @@ public final class CircleEdgeTest {
 
     /** Nothing is lost on the way, and any ray goes on. */
     private static GalleryRays lossless() {
-        GalleryRays x = new GalleryRays();
-        x.setLoss(0);
-        x.setThreshold(1);
-        return x;
+        return Due.wall(0, 1);
     }
 
     // ---- WALL

@@ -42,6 +42,13 @@ final class Due {
         }
     }
 
+    static GalleryRays wall(int loss, int threshold) {
+        GalleryRays x = new GalleryRays();
+        x.setLoss(loss);
+        x.setThreshold(threshold);
+        return x;
+    }
+
     /** Types a text, each character of which must be taken. */
     static void type(GalleryRays x, String text) {
         for (int i = 0; i < text.length(); i++) {

@@ -37,7 +37,8 @@ public final class FaceTest {
             }
         }
         Due.holds("the constants " + constants, constants.equals(Set.of(
-                "public static final BAD", "public static final FULL", "public static final NONE")));
+                "public static final BAD", "public static final FULL",
+                "public static final NONE")));
         Constructor<?>[] constructors = GalleryRays.class.getDeclaredConstructors();
         Due.same("constructors", constructors.length, 1);
         Due.same("parameters of the constructor", constructors[0].getParameterCount(), 0);

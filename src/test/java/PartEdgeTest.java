@@ -47,13 +47,6 @@ public final class PartEdgeTest {
         Due.finish();
     }
 
-    private static GalleryRays wall(int loss, int threshold) {
-        GalleryRays x = new GalleryRays();
-        x.setLoss(loss);
-        x.setThreshold(threshold);
-        return x;
-    }
-
     private static int addAt(GalleryRays x, int kind, int k) {
         return x.add(kind, PLACE, 1, k);
     }
@@ -168,7 +161,7 @@ public final class PartEdgeTest {
     }
 
     private static void contains(int first, int many, int place, int due) {
-        GalleryRays x = wall(0, 1000);
+        GalleryRays x = Due.wall(0, 1000);
         x.add(HEAR, first, many, 0);
         x.shoot(Math.floorMod(place - 1, N), 1, 1);
         Due.same(many + " places from " + first + " contain " + place, x.heard(0, 0), due);
@@ -194,7 +187,7 @@ public final class PartEdgeTest {
             {999, 999, 0}, {999, 1000, 1}, {999, 1999, 1}, {999, 2000, 2}, {999, 1000000, 1000},
             {1000, 1, 0}, {1000, 1000000, 0}};
         for (int[] d : due) {
-            GalleryRays x = wall(0, 1);
+            GalleryRays x = Due.wall(0, 1);
             addAt(x, SOAK, d[0]);
             addAt(x, HEAR, 0);
             shootAt(x, 1, d[1]);
@@ -216,7 +209,7 @@ public final class PartEdgeTest {
     private static void backsTurnAnyStep() {
         int[] steps = {1, -1, 13859, -13859, 77, -77};
         for (int step : steps) {
-            GalleryRays x = wall(0, 1);
+            GalleryRays x = Due.wall(0, 1);
             addAt(x, BACK, 0);
             shootAt(x, step, 9);
             Due.same("step " + step + " before it is turned", x.hit(0, 4), step);
@@ -260,7 +253,7 @@ public final class PartEdgeTest {
     /** "the step becomes greater by k if it is positive, and less by k if it is negative". */
     private static void tiltsGrowInTheirDirection() {
         for (int[] d : TILTED) {
-            GalleryRays x = wall(0, 1);
+            GalleryRays x = Due.wall(0, 1);
             addAt(x, TILT, d[1]);
             addAt(x, HEAR, 0);
             shootAt(x, d[0], 9);
@@ -275,7 +268,7 @@ public final class PartEdgeTest {
     /** "if this is no step, or has the other sign, the ray ends". */
     private static void tiltsThatAreNoStepEnd() {
         for (int[] d : ENDED) {
-            GalleryRays x = wall(0, 1);
+            GalleryRays x = Due.wall(0, 1);
             addAt(x, TILT, d[1]);
             addAt(x, HEAR, 0);
             String call = "step " + d[0] + " tilted by " + d[1];
@@ -294,7 +287,7 @@ public final class PartEdgeTest {
 
     /** A wall on which rays are split once, at PLACE, and are soaked up anywhere else. */
     private static GalleryRays splitter(int k) {
-        GalleryRays x = wall(0, 1);
+        GalleryRays x = Due.wall(0, 1);
         addAt(x, SPLIT, k);
         x.add(SOAK, PLACE + 1, N - 1, 1000);
         return x;
@@ -330,7 +323,7 @@ public final class PartEdgeTest {
     /** "if this would end it .. there is no new ray, but the half is lost all the same". */
     private static void splitsThatWouldEndLoseTheHalf() {
         for (int[] d : ENDED) {
-            GalleryRays x = wall(0, 1);
+            GalleryRays x = Due.wall(0, 1);
             addAt(x, SPLIT, d[1]);
             addAt(x, HEAR, 0);
             String call = "step " + d[0] + " split by " + d[1];
@@ -347,7 +340,7 @@ public final class PartEdgeTest {
         int[][] due = {{500, 1000, 2}, {500, 999, 1}, {500, 1001, 2}, {1, 2, 2}, {1, 1, 1},
             {500000, 1000000, 2}, {500000, 999999, 1}};
         for (int[] d : due) {
-            GalleryRays x = wall(0, d[0]);
+            GalleryRays x = Due.wall(0, d[0]);
             addAt(x, SPLIT, 1);
             addAt(x, HEAR, 0);
             shootAt(x, 100, d[1]);
@@ -355,7 +348,7 @@ public final class PartEdgeTest {
             Due.same(call + ": rays", x.rays(), d[2]);
             Due.same(call + ": rest", x.heard(1, 3), d[1] - d[1] / 2);
         }
-        GalleryRays x = wall(0, 501);
+        GalleryRays x = Due.wall(0, 501);
         addAt(x, SPLIT, 1);
         Due.same("the rest is below the threshold too", shootAt(x, 100, 1001), 600);
         Due.same("the rest is below the threshold too", shootAt(x, 100, 1000), 1);
@@ -363,7 +356,7 @@ public final class PartEdgeTest {
 
     /** "at this hit no part acts on the new ray". */
     private static void splitsLeaveTheNewRayAlone() {
-        GalleryRays x = wall(0, 1);
+        GalleryRays x = Due.wall(0, 1);
         addAt(x, SPLIT, 1);
         addAt(x, HEAR, 0);
         addAt(x, SOAK, 900);
@@ -391,7 +384,7 @@ public final class PartEdgeTest {
 
     /** "the part hears the ray; the ray stays as it is". */
     private static void hearsLeaveTheRay() {
-        GalleryRays x = wall(0, 5);
+        GalleryRays x = Due.wall(0, 5);
         addAt(x, HEAR, 0);
         Due.same("hits", shootAt(x, -30, 5), 600);
         Due.same("heard", x.heard(0, 1), 5);

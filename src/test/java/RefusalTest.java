@@ -42,18 +42,18 @@ public final class RefusalTest {
         Due.finish();
     }
 
-    /** Parts of each kind, two states left, a text in the buffer, a shot of several rays. */
+    /** Parts of each kind, three states left, a text in the buffer, a shot of several rays. */
     private static void useIt(GalleryRays x) {
-        x.setLoss(20);
-        x.setThreshold(300);
         x.add(0, 100, 50, 100);
         x.add(1, 5000, 10, 0);
         x.add(2, 9240, 500, 60);
         x.add(3, 0, 13000, -7);
         x.add(HEAR, 400, N - 500, 0);
+        x.setLoss(20);
+        x.setThreshold(300);
         x.shoot(0, 9240, 50000);
-        x.undo();
         x.setLoss(30);
+        x.setLoss(40);
         x.undo();
         x.undo();
         Due.type(x, "hear:7+7;tilt:5+6,-7");

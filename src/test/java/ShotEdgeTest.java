@@ -50,18 +50,11 @@ public final class ShotEdgeTest {
         Due.finish();
     }
 
-    private static GalleryRays wall(int loss, int threshold) {
-        GalleryRays x = new GalleryRays();
-        x.setLoss(loss);
-        x.setThreshold(threshold);
-        return x;
-    }
-
     // ---- the course of a shot
 
     /** "an energy from 1 to 1000000". */
     private static void energiesEnd() {
-        GalleryRays x = wall(0, 1);
+        GalleryRays x = Due.wall(0, 1);
         Due.same("shoot(0, 1, 0)", x.shoot(0, 1, 0), BAD);
         Due.same("shoot(0, 1, 1000001)", x.shoot(0, 1, 1000001), BAD);
         Due.same("hits()", x.hits(), 0);
@@ -73,7 +66,7 @@ public final class ShotEdgeTest {
 
     /** "begins with one ray, number 0, at a place, with a step and an energy .., at time 0". */
     private static void beginsWithRayZeroAtTimeZero() {
-        GalleryRays x = wall(0, 1000000);
+        GalleryRays x = Due.wall(0, 1000000);
         Due.same("hits", x.shoot(N - 1, -5, 77), 1);
         Due.same("rays()", x.rays(), 1);
         Due.hit(x, 0, 0, N - 6, x.time(5), 77, -5);
@@ -84,14 +77,14 @@ public final class ShotEdgeTest {
     private static void fewerThanSixHundredHits() {
         int[][] due = {{1, 1}, {2, 2}, {599, 599}, {600, 600}, {601, 600}, {1000, 600}};
         for (int[] d : due) {
-            GalleryRays x = wall(0, 1);
+            GalleryRays x = Due.wall(0, 1);
             x.add(SOAK, d[0], 1, 1000);
             Due.same("a ray to " + d[0], x.shoot(0, 1, 1), d[1]);
             Due.same("hits() of a ray to " + d[0], x.hits(), d[1]);
             Due.same("last place of a ray to " + d[0], x.hit(d[1] - 1, 1), d[1]);
             Due.same("after the last hit", x.hit(d[1], 1), BAD);
         }
-        GalleryRays x = wall(0, 1);
+        GalleryRays x = Due.wall(0, 1);
         x.add(SPLIT, 600, 1, 0);
         Due.same("split at the last hit", x.shoot(0, 1, 2), 600);
         Due.same("a ray that is made at the last hit", x.rays(), 2);
@@ -123,7 +116,7 @@ public final class ShotEdgeTest {
         firstAfterASplit(-13852, -1, 1);
         firstAfterASplit(13851, 1, 0);
         firstAfterASplit(-13851, 1, 0);
-        GalleryRays x = wall(0, 1);
+        GalleryRays x = Due.wall(0, 1);
         x.add(SPLIT, 100, 1, 100);
         x.shoot(0, 100, 2);
         // A chord of 200 takes less than two of 100, so ray 1 comes after the first of them.
@@ -139,7 +132,7 @@ public final class ShotEdgeTest {
         firstAfterASplit(13852, 1, 0);
         firstAfterASplit(-13853, -1, 0);
         firstAfterASplit(9240, 0, 0);
-        GalleryRays x = wall(0, 1);
+        GalleryRays x = Due.wall(0, 1);
         for (int i = 0; i < 3; i++) {
             x.add(SPLIT, 50, 1, 0);
         }
@@ -150,7 +143,7 @@ public final class ShotEdgeTest {
     }
 
     private static void firstAfterASplit(int step, int k, int due) {
-        GalleryRays x = wall(0, 1);
+        GalleryRays x = Due.wall(0, 1);
         x.add(SPLIT, Math.floorMod(step, N), 1, k);
         x.shoot(0, step, 2);
         String call = "step " + step + " split by " + k;
@@ -164,18 +157,18 @@ public final class ShotEdgeTest {
             {1, 999, 998}, {1, 1000000, 999000}, {999, 1000, 1}, {999, 1999, 1}, {999, 2000, 2},
             {999, 1000000, 1000}};
         for (int[] d : due) {
-            GalleryRays x = wall(d[0], 1);
+            GalleryRays x = Due.wall(d[0], 1);
             x.shoot(0, 7, d[1]);
             Due.same("energy " + d[1] + " before the loss", x.hit(0, 3), d[1]);
             Due.same("energy " + d[1] + " after the loss of " + d[0], x.hit(1, 3), d[2]);
         }
-        GalleryRays x = wall(999, 1);
+        GalleryRays x = Due.wall(999, 1);
         Due.same("999 has no thousandth", x.shoot(0, 7, 999), 1);
     }
 
     /** "all parts that contain the place act on it, in the order of their numbers". */
     private static void partsActInTheirOrder() {
-        GalleryRays x = wall(0, 1);
+        GalleryRays x = Due.wall(0, 1);
         x.add(TILT, 100, 1, 10);
         x.add(BACK, 100, 1, 0);
         x.add(TILT, 100, 1, -60);
@@ -196,7 +189,7 @@ public final class ShotEdgeTest {
 
     /** "until it ends": what comes after a tilt that ends the ray does nothing. */
     private static void partsActUntilTheRayEnds() {
-        GalleryRays x = wall(0, 1);
+        GalleryRays x = Due.wall(0, 1);
         x.add(HEAR, 100, 1, 0);
         x.add(TILT, 100, 1, -100);
         x.add(HEAR, 100, 1, 0);
@@ -214,13 +207,13 @@ public final class ShotEdgeTest {
     private static void thresholdIsLookedAtLast() {
         int[][] due = {{998, 1}, {999, 1}, {1000, 600}, {1001, 600}};
         for (int[] d : due) {
-            GalleryRays x = wall(0, 1000);
+            GalleryRays x = Due.wall(0, 1000);
             Due.same("energy " + d[0] + ", threshold 1000", x.shoot(0, 1, d[0]), d[1]);
         }
-        GalleryRays x = wall(100, 900);
+        GalleryRays x = Due.wall(100, 900);
         Due.same("900 after the loss", x.shoot(0, 1, 1000), 2);
         Due.same("899 after the loss", x.shoot(0, 1, 999), 1);
-        GalleryRays y = wall(0, 500);
+        GalleryRays y = Due.wall(0, 500);
         y.add(SOAK, 1, 1, 500);
         y.add(HEAR, 1, 1, 0);
         y.add(SPLIT, 1, 1, 1);
@@ -238,7 +231,7 @@ public final class ShotEdgeTest {
 
     /** "New rays get the next numbers". */
     private static void newRaysGetTheNextNumbers() {
-        GalleryRays x = wall(0, 1);
+        GalleryRays x = Due.wall(0, 1);
         x.add(SPLIT, 100, 1, -40);
         x.add(SPLIT, 100, 1, -60);
         x.add(SPLIT, 100, 1, -100);
@@ -257,7 +250,7 @@ public final class ShotEdgeTest {
      * and ray 1 makes as many as there are splits at place 101.
      */
     private static GalleryRays crowd(int splits) {
-        GalleryRays x = wall(0, 1);
+        GalleryRays x = Due.wall(0, 1);
         x.add(SPLIT, 1, 1, 99);
         x.add(SPLIT, 2, 6, 0);
         x.add(SPLIT, 2, 1, 0);
@@ -297,7 +290,7 @@ public final class ShotEdgeTest {
 
     /** "the energy with which the ray came (before the loss), and the step with which it came". */
     private static void hitsAreToldAsTheRayCame() {
-        GalleryRays x = wall(500, 1);
+        GalleryRays x = Due.wall(500, 1);
         x.add(SOAK, 9, 1, 900);
         x.add(BACK, 9, 1, 0);
         x.add(TILT, 9, 1, 4);
@@ -308,7 +301,7 @@ public final class ShotEdgeTest {
 
     /** Promise 13: "BAD if there is no such hit, or what is not in its range". */
     private static void hitsAtTheEnds() {
-        GalleryRays x = wall(0, 1);
+        GalleryRays x = Due.wall(0, 1);
         x.add(SOAK, 3, 1, 1000);
         Due.same("hits", x.shoot(0, 1, 4), 3);
         Due.same("hit(-1, 0)", x.hit(-1, 0), BAD);
@@ -328,7 +321,7 @@ public final class ShotEdgeTest {
 
     /** "What is told of the shot is that of the latest one". */
     private static void latestShotIsTold() {
-        GalleryRays x = wall(0, 1);
+        GalleryRays x = Due.wall(0, 1);
         x.add(SPLIT, 11088, 1, 5);
         x.add(HEAR, 0, N, 0);
         x.shoot(0, 11088, 1000000);
@@ -337,7 +330,7 @@ public final class ShotEdgeTest {
         x.remove(0);
         x.add(SOAK, 20, 1, 1000);
         x.shoot(0, 10, 6);
-        GalleryRays y = wall(0, 1);
+        GalleryRays y = Due.wall(0, 1);
         y.add(SOAK, 20, 1, 1000);
         y.shoot(0, 10, 6);
         Due.same("hits()", x.hits(), 2);
@@ -370,7 +363,7 @@ public final class ShotEdgeTest {
 
     /** Promise 15: "the number of different places that were hit". */
     private static void coversEachPlaceOnce() {
-        GalleryRays x = wall(0, 1);
+        GalleryRays x = Due.wall(0, 1);
         int[][] due = {{1, 600}, {-1, 600}, {9240, 3}, {6930, 4}, {11088, 5}, {55, 504},
             {46, 600}, {13859, 600}};
         for (int[] d : due) {
@@ -387,7 +380,7 @@ public final class ShotEdgeTest {
         Due.same("gap() without a hit", new GalleryRays().gap(), N);
         int[] places = {0, 1, 62, 63, 64, 65, 13859, 13860, N - 65, N - 64, N - 2, N - 1};
         for (int place : places) {
-            GalleryRays x = wall(0, 2);
+            GalleryRays x = Due.wall(0, 2);
             x.shoot(Math.floorMod(place - 3, N), 3, 1);
             Due.same("place of the hit", x.hit(0, 1), place);
             Due.same("gap() of a hit at " + place, x.gap(), N - 1);
@@ -409,7 +402,7 @@ public final class ShotEdgeTest {
     private static int gapOf(int first, int second) {
         int way = Math.floorMod(second - first, N);
         int step = way > N / 2 ? way - N : way;
-        GalleryRays x = wall(0, 1);
+        GalleryRays x = Due.wall(0, 1);
         x.add(SOAK, second, 1, 1000);
         Due.same("hits", x.shoot(Math.floorMod(first - step, N), step, 1), 2);
         return x.gap();
@@ -417,7 +410,7 @@ public final class ShotEdgeTest {
 
     /** Hits all around, so that the longest stretch is short. */
     private static void gapOfManyHits() {
-        GalleryRays x = wall(0, 1);
+        GalleryRays x = Due.wall(0, 1);
         int[][] due = {{0, 55, 54}, {N - 1, 55, 54}, {54, -55, 54}, {0, 13805, 54}, {7, 9240, 9239},
             {0, 6930, 6929}, {0, 46, 165}, {0, 1, N - 600}, {N - 301, 1, N - 600}};
         for (int[] d : due) {
@@ -428,7 +421,7 @@ public final class ShotEdgeTest {
 
     /** "What a part hears is the energy as it is when the part acts." */
     private static void hearsAsThePartActs() {
-        GalleryRays x = wall(100, 1);
+        GalleryRays x = Due.wall(100, 1);
         x.add(HEAR, 20, 1, 0);
         x.add(SOAK, 20, 1, 500);
         x.add(HEAR, 20, 1, 0);
@@ -449,7 +442,7 @@ public final class ShotEdgeTest {
 
     /** Promise 17: "part: 0 to 11", "what: 0 .. 3". */
     private static void heardAtTheEnds() {
-        GalleryRays x = wall(0, 600);
+        GalleryRays x = Due.wall(0, 600);
         for (int i = 0; i < 12; i++) {
             x.add(HEAR, i + 1, 1, 0);
         }
@@ -469,7 +462,7 @@ public final class ShotEdgeTest {
 
     /** "by its number at the time of the shot", also where there is no such part now. */
     private static void heardByTheNumberAtTheShot() {
-        GalleryRays x = wall(0, 1000);
+        GalleryRays x = Due.wall(0, 1000);
         for (int i = 0; i < 12; i++) {
             x.add(HEAR, i + 1, 1, 0);
         }
@@ -485,7 +478,7 @@ public final class ShotEdgeTest {
 
     /** "(NONE if there is none)", "(0 if there is none)". */
     private static void heardNoneAndZero() {
-        GalleryRays x = wall(500, 1);
+        GalleryRays x = Due.wall(500, 1);
         x.add(HEAR, 10, 1, 0);
         int[][] due = {{0, 5, 1}, {1, 5, 0}, {0, 10, 1}, {0, 9, 0}};
         for (int[] d : due) {
@@ -499,7 +492,7 @@ public final class ShotEdgeTest {
                     heard ? (10 / d[1]) * (long) x.time(d[1]) : NONE);
             Due.same(call + ": greatest", x.heard(0, 3), heard ? less : 0);
         }
-        GalleryRays y = wall(500, 1);
+        GalleryRays y = Due.wall(500, 1);
         y.add(HEAR, 0, N, 0);
         y.shoot(0, 1, 16);
         Due.same("how often", y.heard(0, 0), 5);
@@ -510,7 +503,7 @@ public final class ShotEdgeTest {
 
     /** Promise 18: "BAD if i is negative; NONE if there are not so many". */
     private static void echoesAtTheEnds() {
-        GalleryRays x = wall(0, 1);
+        GalleryRays x = Due.wall(0, 1);
         Due.same("echo(-1) without a shot", x.echo(-1), BAD);
         Due.same("echo(0) without a shot", x.echo(0), NONE);
         x.add(HEAR, 3, 2, 0);
@@ -532,7 +525,7 @@ public final class ShotEdgeTest {
 
     /** "(one that several parts heard is one echo)". */
     private static void echoOfSeveralParts() {
-        GalleryRays x = wall(0, 1);
+        GalleryRays x = Due.wall(0, 1);
         x.add(HEAR, 2, 1, 0);
         x.add(HEAR, 2, 2, 0);
         x.add(HEAR, 1, 2, 0);
@@ -564,7 +557,7 @@ public final class ShotEdgeTest {
 
     /** "their sum, as a float, divided by their number, as a float". */
     private static void meanOfFloats() {
-        GalleryRays x = wall(500, 1);
+        GalleryRays x = Due.wall(500, 1);
         x.shoot(0, 1, 7);
         Due.same("mean() of 7, 3, 1", (double) x.mean(), 3.6666667461395264);
         x.shoot(0, 1, 5);
@@ -581,7 +574,7 @@ public final class ShotEdgeTest {
 
     /** "chords: 0 to 200, how many of its chords, from the first one on". */
     private static void crossingsAtTheEnds() {
-        GalleryRays x = wall(0, 1);
+        GalleryRays x = Due.wall(0, 1);
         x.shoot(3, 11088, 1);
         Due.same("crossings(-1)", x.crossings(-1), BAD);
         int[] due = {0, 0, 0, 1, 3, 5, 7, 9};
@@ -598,7 +591,7 @@ public final class ShotEdgeTest {
     private static void crossingsOfFewerChords() {
         int[] due = {0, 0, 0, 1, 3, 5};
         for (int chords = 1; chords < due.length; chords++) {
-            GalleryRays x = wall(500, 1);
+            GalleryRays x = Due.wall(500, 1);
             Due.same("hits", x.shoot(N - 1, 11088, 1 << (chords - 1)), chords);
             Due.same("crossings(" + (chords - 1) + ")", x.crossings(chords - 1), due[chords - 1]);
             Due.same("crossings(" + chords + ")", x.crossings(chords), due[chords]);
@@ -609,7 +602,7 @@ public final class ShotEdgeTest {
 
     /** "the first chords of ray 0 in the shot". */
     private static void crossingsOfRayZero() {
-        GalleryRays x = wall(0, 1);
+        GalleryRays x = Due.wall(0, 1);
         x.add(SPLIT, 11088, 1, -5544);
         x.add(SPLIT, 11088, 1, 300);
         x.shoot(0, 11088, 1000000);
@@ -629,7 +622,7 @@ public final class ShotEdgeTest {
         int[][] due = {{26999, 0}, {27000, 0}, {27001, 1}, {N - 1, 1}, {0, 1}, {1, 1}, {499, 1},
             {500, 0}, {501, 0}, {1999, 0}};
         for (int[] d : due) {
-            GalleryRays x = wall(0, 1);
+            GalleryRays x = Due.wall(0, 1);
             x.add(TILT, 500, 1, 280);
             x.add(BACK, 2000, 1, 0);
             int way = Math.floorMod(2000 - d[0], N);

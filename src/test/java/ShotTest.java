@@ -32,15 +32,8 @@ public final class ShotTest {
         Due.finish();
     }
 
-    private static GalleryRays wall(int loss, int threshold) {
-        GalleryRays x = new GalleryRays();
-        x.setLoss(loss);
-        x.setThreshold(threshold);
-        return x;
-    }
-
     private static void shootRefuses() {
-        GalleryRays x = wall(0, 1000);
+        GalleryRays x = Due.wall(0, 1000);
         int[][] bad = {{-1, 1, 1}, {27720, 1, 1}, {0, 0, 1}, {0, 13860, 1}, {0, -13860, 1},
             {0, 1, 0}, {0, 1, -1}, {0, 1, 1000001}, {Integer.MIN_VALUE, 1, 1},
             {Integer.MAX_VALUE, 1, 1}, {0, Integer.MIN_VALUE, 1}, {0, Integer.MAX_VALUE, 1},
@@ -64,7 +57,7 @@ public final class ShotTest {
     }
 
     private static void plainRay() {
-        GalleryRays x = wall(10, 95000);
+        GalleryRays x = Due.wall(10, 95000);
         Due.same("shoot", x.shoot(9000, 9240, 100000), 6);
         Due.same("hits()", x.hits(), 6);
         Due.same("rays()", x.rays(), 1);
@@ -78,7 +71,7 @@ public final class ShotTest {
     }
 
     private static void backwardRay() {
-        GalleryRays x = wall(0, 1000);
+        GalleryRays x = Due.wall(0, 1000);
         x.shoot(10, -20, 2000);
         Due.same("place 0", x.hit(0, 1), 27710);
         Due.same("place 1", x.hit(1, 1), 27690);
@@ -88,7 +81,7 @@ public final class ShotTest {
     }
 
     private static void threshold() {
-        GalleryRays x = wall(500, 250);
+        GalleryRays x = Due.wall(500, 250);
         Due.same("energy at the threshold goes on", x.shoot(0, 1, 1000), 3);
         Due.same("energy below the threshold", x.shoot(0, 1, 999), 2);
         Due.same("a weak ray has its first hit", x.shoot(0, 1, 1), 1);
@@ -102,7 +95,7 @@ public final class ShotTest {
     }
 
     private static void mostHits() {
-        GalleryRays x = wall(0, 1);
+        GalleryRays x = Due.wall(0, 1);
         Due.same("shoot", x.shoot(0, 13859, 1), 600);
         Due.same("hits()", x.hits(), 600);
         Due.same("last time", x.hit(599, 2), 600L * 1999999);
@@ -110,7 +103,7 @@ public final class ShotTest {
     }
 
     private static void hitRefuses() {
-        GalleryRays x = wall(10, 1000000);
+        GalleryRays x = Due.wall(10, 1000000);
         Due.same("hit(0, 0) without a shot", x.hit(0, 0), BAD);
         Due.same("shoot", x.shoot(1, 2, 3), 1);
         Due.hit(x, 0, 0, 3, x.time(2), 3, 2);
@@ -125,7 +118,7 @@ public final class ShotTest {
     }
 
     private static void soaks() {
-        GalleryRays x = wall(10, 200);
+        GalleryRays x = Due.wall(10, 200);
         x.add(0, 9240, 1, 333);
         Due.same("shoot", x.shoot(0, 9240, 1000), 10);
         // 1000 less the loss is 990, less 333 thousandths is 660.33.
@@ -136,7 +129,7 @@ public final class ShotTest {
     }
 
     private static void turnsBack() {
-        GalleryRays x = wall(0, 1);
+        GalleryRays x = Due.wall(0, 1);
         x.add(1, 9240, 1, 0);
         x.shoot(0, 9240, 5);
         Due.hit(x, 0, 0, 9240, THIRD, 5, 9240);
@@ -150,7 +143,7 @@ public final class ShotTest {
     }
 
     private static void tilts() {
-        GalleryRays x = wall(0, 1);
+        GalleryRays x = Due.wall(0, 1);
         x.add(2, 100, 1, 50);
         x.shoot(0, 100, 5);
         Due.hit(x, 0, 0, 100, x.time(100), 5, 100);
@@ -189,7 +182,7 @@ public final class ShotTest {
 
     /** The step becomes want; a want of 0 ends the ray before the later part hears it. */
     private static void tiltTo(int step, int k, int want) {
-        GalleryRays x = wall(0, 1);
+        GalleryRays x = Due.wall(0, 1);
         int place = Math.floorMod(step, 27720);
         x.add(2, place, 1, k);
         x.add(4, place, 1, 0);
@@ -206,7 +199,7 @@ public final class ShotTest {
     }
 
     private static void splits() {
-        GalleryRays x = wall(10, 100);
+        GalleryRays x = Due.wall(10, 100);
         x.add(3, 9240, 1, -3000);
         x.add(4, 9240, 1, 0);
         x.setThreshold(491);
@@ -226,7 +219,7 @@ public final class ShotTest {
     }
 
     private static void splitLosesHalf() {
-        GalleryRays x = wall(0, 500);
+        GalleryRays x = Due.wall(0, 500);
         x.add(3, 9240, 1, 5);
         x.shoot(0, 9240, 1000);
         Due.same("half at the threshold", x.rays(), 2);
@@ -250,7 +243,7 @@ public final class ShotTest {
     }
 
     private static void splitTiesGoByNumber() {
-        GalleryRays x = wall(0, 100);
+        GalleryRays x = Due.wall(0, 100);
         x.add(3, 0, 27720, 0);
         Due.same("hits", x.shoot(0, 9240, 400), 7);
         Due.same("rays", x.rays(), 4);
@@ -264,7 +257,7 @@ public final class ShotTest {
     }
 
     private static void mostRays() {
-        GalleryRays x = wall(0, 1);
+        GalleryRays x = Due.wall(0, 1);
         for (int i = 0; i < 12; i++) {
             x.add(3, 5, 1, i);
         }
@@ -272,7 +265,7 @@ public final class ShotTest {
         x.shoot(4, 1, 1000000);
         Due.same("rays of twelve splits", x.rays(), 13);
         Due.same("the rest of twelve splits", ray0Energy(x, 1), 245);
-        GalleryRays y = wall(0, 1);
+        GalleryRays y = Due.wall(0, 1);
         y.add(3, 0, 27720, 0);
         Due.same("hits", y.shoot(0, 1, 1000000), 600);
         Due.same("most rays", y.rays(), 100);
@@ -297,7 +290,7 @@ public final class ShotTest {
     }
 
     private static void partsWrapAround() {
-        GalleryRays x = wall(0, 1000);
+        GalleryRays x = Due.wall(0, 1000);
         x.add(4, 27718, 4, 0);
         int[] heardAt = {27718, 27719, 0, 1};
         for (int place : heardAt) {
@@ -315,7 +308,7 @@ public final class ShotTest {
     }
 
     private static void partsActInOrder() {
-        GalleryRays x = wall(100, 300);
+        GalleryRays x = Due.wall(100, 300);
         x.add(4, 9240, 1, 0);
         x.add(0, 9240, 1, 500);
         x.add(4, 9240, 1, 0);
@@ -332,7 +325,7 @@ public final class ShotTest {
     }
 
     private static void hears() {
-        GalleryRays x = wall(100, 700);
+        GalleryRays x = Due.wall(100, 700);
         for (int part = 0; part < 12; part++) {
             Due.same("how often without a shot", x.heard(part, 0), 0);
             Due.same("sum without a shot", x.heard(part, 1), 0);
@@ -357,7 +350,7 @@ public final class ShotTest {
     }
 
     private static void heardKeepsNumbers() {
-        GalleryRays x = wall(0, 1000);
+        GalleryRays x = Due.wall(0, 1000);
         x.add(0, 5, 1, 0);
         x.add(4, 9240, 1, 0);
         x.shoot(0, 9240, 7);
@@ -382,7 +375,7 @@ public final class ShotTest {
     }
 
     private static void echoes() {
-        GalleryRays x = wall(0, 1000);
+        GalleryRays x = Due.wall(0, 1000);
         Due.same("echo(-1) without a shot", x.echo(-1), BAD);
         Due.same("echo(0) without a shot", x.echo(0), NONE);
         x.add(4, 9240, 1, 0);
@@ -411,7 +404,7 @@ public final class ShotTest {
     }
 
     private static void gapsAndCoverage() {
-        GalleryRays x = wall(0, 1000);
+        GalleryRays x = Due.wall(0, 1000);
         x.shoot(0, 9240, 1);
         Due.same("coverage() of one hit", x.coverage(), 1);
         Due.same("gap() of one hit", x.gap(), 27719);
@@ -440,7 +433,7 @@ public final class ShotTest {
     }
 
     private static void means() {
-        GalleryRays x = wall(500, 300);
+        GalleryRays x = Due.wall(500, 300);
         Due.same("mean() without hits", (double) x.mean(), 0.0);
         x.shoot(0, 77, 1000);
         Due.same("mean() of two", (double) x.mean(), 750.0);
@@ -456,7 +449,7 @@ public final class ShotTest {
     }
 
     private static void crosses() {
-        GalleryRays x = wall(0, 1);
+        GalleryRays x = Due.wall(0, 1);
         Due.same("crossings(200) without a shot", x.crossings(200), 0);
         // A star with five points.
         x.shoot(3, 11088, 1);
